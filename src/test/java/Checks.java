@@ -1,0 +1,108 @@
+/** What the tests share: counting wrong answers, and telling texts byte by byte. */
+final class Checks {
+    static final long LEAST = Long.MIN_VALUE;
+
+    private static int wrong = 0;
+
+    private Checks() {
+    }
+
+    static void due(String what, long got, long want) {
+        if (got != want) {
+            wrong++;
+            System.out.println(what + " answered " + got + ", due is " + want);
+        }
+    }
+
+    static void due(String what, boolean got, boolean want) {
+        due(what, got ? 1 : 0, want ? 1 : 0);
+    }
+
+    static void due(String what, String got, String want) {
+        if (!got.equals(want)) {
+            wrong++;
+            System.out.println(what + " answered [" + got + "], due is [" + want + "]");
+        }
+    }
+
+    static void tell(DutyRules rules, String text) {
+        for (int i = 0; i < text.length(); i++) {
+            due("unit " + (int) text.charAt(i), rules.unit(text.charAt(i)), true);
+        }
+    }
+
+    static int readText(DutyRules rules, String text) {
+        tell(rules, text);
+        return rules.read();
+    }
+
+    static String writtenText(DutyRules rules) {
+        StringBuilder bytes = new StringBuilder();
+        for (int i = 0; i < 100000 && rules.write(i) != DutyRules.NONE; i++) {
+            bytes.append((char) rules.write(i));
+        }
+        return bytes.toString();
+    }
+
+    /** A new object with one edition of the text from a day on. */
+    static DutyRules withEdition(String text, long from) {
+        DutyRules rules = new DutyRules();
+        if (readText(rules, text) < 0) {
+            due("reading " + text, false, true);
+        }
+        due("edition", rules.edition(from), 0);
+        return rules;
+    }
+
+    static void tellFacts(DutyRules rules, int lot, long day, int... values) {
+        for (int kind = 0; kind < values.length; kind++) {
+            if (values[kind] >= 0) {
+                due("fact", rules.fact(lot, kind, day, values[kind], 1), true);
+            }
+        }
+    }
+
+    static void dueDuty(DutyRules rules, int lot, long day, long on, long above, long below) {
+        String call = "duty(" + lot + ", " + day + ", " + on + ")";
+        due(call + " above", rules.duty(lot, day, on, 0), above);
+        due(call + " below", rules.duty(lot, day, on, 1), below);
+    }
+
+    static void dueOpen(DutyRules rules, int lot, long day, long on, int reason) {
+        dueDuty(rules, lot, day, on, LEAST, LEAST);
+        due("open(0)", rules.open(0), lot);
+        due("open(1)", rules.open(1), reason);
+        due("open(2)", rules.open(2), 0);
+        due("step of an open duty", rules.step(lot, 0, 0), DutyRules.NONE);
+    }
+
+    static void dueStep(DutyRules rules, int lot, int k, int letter, int rule, int cents) {
+        due("letter of step " + k, rules.step(lot, k, 0), letter);
+        due("rule of step " + k, rules.step(lot, k, 1), rule);
+        due("cents of step " + k, rules.step(lot, k, 2), cents);
+    }
+
+    static void dueRow(DutyRules rules, int k, long lot, long cents, long change) {
+        due("lot of row " + k, rules.row(k, 0), lot);
+        due("cents of row " + k, rules.row(k, 1), cents);
+        due("change of row " + k, rules.row(k, 2), change);
+    }
+
+    static void dueInterest(DutyRules rules, int month, long day, long above, long below) {
+        String call = "interest(" + month + ", " + day + ")";
+        due(call + " above", rules.interest(month, day, 0), above);
+        due(call + " below", rules.interest(month, day, 1), below);
+    }
+
+    static void dueAllowed(DutyRules rules, int month, long above, long below) {
+        due("allowed(" + month + ") above", rules.allowed(month, 0), above);
+        due("allowed(" + month + ") below", rules.allowed(month, 1), below);
+    }
+
+    static void end() {
+        System.out.println(wrong == 0 ? "all answers are as due" : wrong + " answers are not as due");
+        if (wrong != 0) {
+            System.exit(1);
+        }
+    }
+}
