@@ -113,7 +113,7 @@ public final class DutyRules {
             return LEAST_LONG;
         }
         wasAsked = true;
-        reckon(asked, lot, (int) day, (int) on);
+        asked.reckon(editions, facts, lot, (int) day, (int) on);
         if (asked.reason != NONE) {
             return LEAST_LONG;
         }
@@ -151,7 +151,7 @@ public final class DutyRules {
         int day = lastDayOf(month);
         long free = 0;
         for (int lot = 0; lot < LOTS; lot++) {
-            reckon(inner, lot, day, day);
+            inner.reckon(editions, facts, lot, day, day);
             free += inner.free;
         }
         return reduced(free, Duty.LITRE, part);
@@ -276,13 +276,9 @@ public final class DutyRules {
         return greater;
     }
 
-    private void reckon(Duty duty, int lot, int day, int on) {
-        duty.reckon(editions.heldOn(day), facts, lot, day, on);
-    }
-
     /** The duty rounded down to cents, the least long when it is open. */
     private long centsOf(int lot, int day, int on) {
-        reckon(inner, lot, day, on);
+        inner.reckon(editions, facts, lot, day, on);
         return inner.reason == NONE ? inner.amount / Duty.CENT : LEAST_LONG;
     }
 
@@ -706,11 +702,12 @@ public final class DutyRules {
             centsBehind = new long[MOST_STEPS];
         }
 
-        void reckon(Rules rules, Facts facts, int ofLot, int day, int on) {
+        void reckon(Editions editions, Facts facts, int ofLot, int day, int on) {
             lot = ofLot;
             steps = 0;
             amount = 0;
             free = 0;
+            Rules rules = editions.heldOn(day);
             if (rules == null) {
                 reason = NO_EDITION;
                 return;

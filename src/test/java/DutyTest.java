@@ -12,6 +12,7 @@ public final class DutyTest {
         allSteps();
         greatest();
         ofTheLastDuty();
+        fortyRules();
         Checks.end();
     }
 
@@ -233,6 +234,15 @@ public final class DutyTest {
         Checks.tellFacts(y, 0, 0, 0, 0, 1, 0, 1, 1);
         // 1/100 litre, a hundredth of it free, the rest away by a hundredth, a hundredth of that.
         Checks.dueDuty(y, 0, 0, 0, 9801, 100000000000L);
+    }
+
+    private static void fortyRules() {
+        DutyRules x = Checks.withEdition("loss 2 upto 5;".repeat(39) + "rate 1 from 0 to 10000 pay 1000;", 0);
+        Checks.tellFacts(x, 0, 0, 1, 0, 100, 0, 100, 100);
+        Checks.tellFacts(x, 1, 0, 2, 0, 100, 0, 100, 100);
+        Checks.dueDuty(x, 0, 0, 0, 1, 1);
+        Checks.dueStep(x, 0, 0, 0, 39, 1);
+        Checks.dueOpen(x, 1, 0, 0, 21);
     }
 
     private static void ofTheLastDuty() {
