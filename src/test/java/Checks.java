@@ -2,15 +2,28 @@
 final class Checks {
     static final long LEAST = Long.MIN_VALUE;
 
+    /** The wrap-around neighbours of small numbers: casts to int would make 0, 1, -1 of them. */
+    static final long[] WRAPPING = {1L << 32, (1L << 32) + 1, -(1L << 32), Long.MIN_VALUE, Long.MIN_VALUE + 1,
+        Long.MAX_VALUE, Long.MAX_VALUE - 1, Integer.MIN_VALUE, Integer.MAX_VALUE, 1L << 31};
+
+    static final int[] EXTREME = {Integer.MIN_VALUE, Integer.MIN_VALUE + 1, Integer.MAX_VALUE, Integer.MAX_VALUE - 1,
+        1 << 30, -(1 << 30), 1 << 16, -(1 << 16)};
+
     private static int wrong = 0;
+    private static String sentence = "";
 
     private Checks() {
+    }
+
+    /** The document's sentence that the next answers are due by; a wrong answer tells it. */
+    static void sentence(String words) {
+        sentence = "[" + words + "] ";
     }
 
     static void due(String what, long got, long want) {
         if (got != want) {
             wrong++;
-            System.out.println(what + " answered " + got + ", due is " + want);
+            System.out.println(sentence + what + " answered " + got + ", due is " + want);
         }
     }
 
@@ -21,7 +34,7 @@ final class Checks {
     static void due(String what, String got, String want) {
         if (!got.equals(want)) {
             wrong++;
-            System.out.println(what + " answered [" + got + "], due is [" + want + "]");
+            System.out.println(sentence + what + " answered [" + got + "], due is [" + want + "]");
         }
     }
 

@@ -11,12 +11,30 @@ import java.util.TreeMap;
 public final class ModelTest {
     private static final int RUNS = 3000;
     private static final int CALLS = 512;
+    private static final int RUNS_WITH_EDGES = 12;
+
+    private static final int[] INTS = {Integer.MIN_VALUE, -(1 << 16), -2, -1, 0, 1, 2, 3, 5, 6, 29, 30, 127, 128, 3000, 3001,
+        143165577, Integer.MAX_VALUE};
+    private static final long[] LONGS = {Long.MIN_VALUE, Long.MIN_VALUE + 1, -(1L << 32), Integer.MIN_VALUE, -1, 0, 1, 29,
+        30, 99, 100, 101, 100000, 100001, 1L << 31, 1L << 32, (1L << 32) + 1, Long.MAX_VALUE};
 
     public static void main(String[] args) {
         for (int seed = 0; seed < RUNS; seed++) {
             new Run(seed).go();
         }
+        new Run(0).askEdges();
+        for (int seed = 0; seed < RUNS_WITH_EDGES; seed++) {
+            edges(new Run(seed));
+        }
         Checks.end();
+    }
+
+    /** Each call with all its edges together, behind a run and when it is full of facts. */
+    private static void edges(Run run) {
+        run.go();
+        run.askEdges();
+        run.tellEdges();
+        run.askEdges();
     }
 
     /** A fraction, always in lowest terms, not below 0. */
@@ -424,6 +442,52 @@ public final class ModelTest {
                     tellFact();
                 } else {
                     ask();
+                }
+            }
+        }
+
+        void tellEdges() {
+            for (int lot : INTS) {
+                for (int kind : INTS) {
+                    for (long day : LONGS) {
+                        due("told", real.told(lot, kind, day) ? 1 : 0, model.told(lot, kind, day) ? 1 : 0, lot, kind, day);
+                        for (long above : LONGS) {
+                            for (long below : LONGS) {
+                                fact(lot, kind, day, above, below);
+                            }
+                        }
+                    }
+                }
+            }
+            for (long day : LONGS) {
+                due("edition", real.edition(day), model.edition(day), day);
+            }
+            for (int u : INTS) {
+                due("unit", real.unit(u) ? 1 : 0, model.unit(u) ? 1 : 0, u);
+            }
+            due("read", real.read(), model.read());
+        }
+
+        void askEdges() {
+            for (int a : INTS) {
+                due("returned", real.returned(a), model.returned(a), a);
+                due("open", real.open(a), model.open(a), a);
+                due("write", real.write(a), model.write(a), a);
+                for (int b : INTS) {
+                    due("allowed", real.allowed(a, b), model.allowed(a, b), a, b);
+                    due("row", real.row(a, b), model.row(a, b), a, b);
+                    for (int c : INTS) {
+                        due("step", real.step(a, b, c), model.step(a, b, c), a, b, c);
+                    }
+                }
+                for (long day : LONGS) {
+                    due("difference", real.difference(a, day), model.difference(a, day), a, day);
+                    for (int part : INTS) {
+                        due("interest", real.interest(a, day, part), model.interest(a, day, part), a, day, part);
+                        for (long on : LONGS) {
+                            due("duty", real.duty(a, day, on, part), model.duty(a, day, on, part), a, day, on, part);
+                        }
+                    }
                 }
             }
         }
