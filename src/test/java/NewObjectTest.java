@@ -1,9 +1,17 @@
 import java.lang.reflect.Method;
 import java.lang.reflect.Modifier;
+import java.util.Arrays;
 import java.util.TreeSet;
 
 /** The public face, and promise 1: no text, no rules read, no editions, no facts. */
 public final class NewObjectTest {
+    private static final String[] METHODS = {
+        "public boolean unit(int)", "public int read()", "public int edition(long)",
+        "public boolean fact(int,int,long,long,long)", "public boolean told(int,int,long)",
+        "public long duty(int,long,long,int)", "public int open(int)", "public int step(int,int,int)",
+        "public long allowed(int,int)", "public int returned(int)", "public long row(int,int)",
+        "public long difference(int,long)", "public int write(int)", "public long interest(int,long,int)"};
+
     public static void main(String[] args) {
         face();
         newObject();
@@ -15,14 +23,15 @@ public final class NewObjectTest {
         Checks.due("NONE", DutyRules.NONE, -1);
         Checks.due("FULL", DutyRules.FULL, -2);
         Checks.due("final", Modifier.isFinal(DutyRules.class.getModifiers()), true);
-        TreeSet<String> names = new TreeSet<>();
+        TreeSet<String> methods = new TreeSet<>();
         for (Method method : DutyRules.class.getDeclaredMethods()) {
             if (!Modifier.isPrivate(method.getModifiers())) {
-                names.add(method.getName());
+                methods.add(method.toString().replace("DutyRules.", ""));
             }
         }
-        Checks.due("methods", names.toString(), "[allowed, difference, duty, edition, fact, interest, "
-                + "open, read, returned, row, step, told, unit, write]");
+        TreeSet<String> promised = new TreeSet<>(Arrays.asList(METHODS));
+        Checks.due("methods", methods.toString(), promised.toString());
+        Checks.due("constructors", Arrays.toString(DutyRules.class.getConstructors()), "[public DutyRules()]");
     }
 
     private static void newObject() {
